@@ -15,7 +15,7 @@ public final class HerringShares {
     private static final int MAX_LOOK = 24;
 
     private final Tape tape = new Tape();
-    private final Tokens tokens = new Tokens();
+    private final Tokens tokens = new Tokens(tape);
     private final Parser parser = new Parser(tokens);
     private final Teller teller = new Teller(tokens);
     private final State now = new State();
@@ -53,7 +53,7 @@ public final class HerringShares {
 
     public int read() {
         draft.clear();
-        tokens.scan(tape);
+        tokens.scan();
         parser.parse(draft.laws);
         int fault = parser.fault;
         int token = parser.at;
@@ -545,15 +545,20 @@ public final class HerringShares {
         private final int[] kinds = new int[MOST + 1];
         private final int[] places = new int[MOST + 1];
         private final int[] values = new int[MOST + 1];
-        private Tape tape;
+        private final Tape tape;
         private int length;
         private int size;
         private int at;
+
+        Tokens(Tape tape) {
+            this.tape = tape;
+        }
 
         int kind(int i) {
             return i >= 0 && i < size ? kinds[i] : END;
         }
 
+        /** The byte of a TOKEN; behind the last one, the text's end. */
         int placeOf(int i) {
             return i >= 0 && i < size ? places[i] : length;
         }
@@ -563,10 +568,8 @@ public final class HerringShares {
             return i >= 0 && i < size ? values[i] : 0;
         }
 
-        /** The text's end is the place behind the last one. */
-        void scan(Tape text) {
-            tape = text;
-            length = text.length;
+        void scan() {
+            length = tape.length;
             size = 0;
             at = 0;
             boolean more = true;
@@ -771,7 +774,7 @@ public final class HerringShares {
                     if (top >= STACK) {
                         return 0;
                     }
-                    stack[top] = step == PUSH ? operands[at] : var(operands[at]);
+                    stack[top] = step == PUSH ? operands[at] : varValue(operands[at]);
                     top++;
                     at++;
                     continue;
@@ -796,7 +799,7 @@ public final class HerringShares {
             return 0;
         }
 
-        private int var(int which) {
+        private int varValue(int which) {
             return which >= 0 && which < VARS ? vars[which] : 0;
         }
 
@@ -1397,13 +1400,21 @@ public final class HerringShares {
         }
 
         int eaten(Town town, State state, int house, int all) {
+            int most = state.fish[house];
+            if (most == 0) {
+                return 0;
+            }
             setVars(town, state, house, all);
-            return within(town.laws.value(Laws.EATS), 0, state.fish[house]);
+            return within(town.laws.value(Laws.EATS), 0, most);
         }
 
         int rotten(Town town, State state, int house, int all) {
+            int most = state.fresh(house);
+            if (most == 0) {
+                return 0;
+            }
             setVars(town, state, house, all);
-            return within(town.laws.value(Laws.ROTS), 0, state.fresh(house));
+            return within(town.laws.value(Laws.ROTS), 0, most);
         }
 
         int caught(Town town, State state, int house, int all) {
