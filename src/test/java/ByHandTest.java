@@ -61,8 +61,12 @@ public final class ByHandTest {
         HerringShares x = three();
         DUE.is("FISH", -2, x.buy(1, 2, 7));
         DUE.is("COINS", -2, x.buy(0, 1, 5));
-        DUE.is("COINS that just do", 44, x.buy(0, 1, 4));
+        DUE.is("COINS that do", 44, x.buy(0, 1, 4));
         x.undo();
+        HerringShares y = Due.town("house a 1 30 0 0; house b 9 0 0 0; house c 9 29 0 0;");
+        DUE.is("COINS that do not by one", -2, y.buy(2, 1, 3));
+        DUE.is("COINS that just do", 30, y.buy(0, 1, 3));
+        DUE.is("none is left", -2, y.buy(0, 1, 1));
         for (int h : NO_HOUSES) {
             DUE.is("buy(" + h + ", 0, 1)", -1, x.buy(h, 0, 1));
             DUE.is("buy(0, " + h + ", 1)", -1, x.buy(0, h, 1));

@@ -47,6 +47,11 @@ public final class FaultsTest {
         fault(1, "#housea 1 2 3 4;");
         fault(0, "house a1 2 3 4;");
         fault(1, "house a 1 2 3 4;motion h#9;");
+        fault(0, "house mouse 1 1 1 1; house houses 1 1 1 1; house hous 1 1 1 1; house hoose 1 1 1 1;");
+        fault(0, "house of 1 1 1 1; house whicher 1 1 1 1; house salte 1 1 1 1; house motioner 1 1 1 1;");
+        for (String word : ModelText.WORDS) {
+            fault(1, "house #" + word + " 1 1 1 1;");
+        }
         fault(1, "price = 1 #> 2;");
         fault(1, "price = #-1;");
     }
@@ -137,6 +142,13 @@ public final class FaultsTest {
         fault(0, "price = " + times(6, "(") + "1" + times(6, ")") + "+" + times(6, "(") + "1" + times(6, ")") + ";");
         fault(2, "price = " + times(6, "(") + "#(1" + times(7, ")") + ";");
         fault(1, "price = " + times(6, "(") + "1#(1" + times(7, ")") + ";");
+        String six = times(6, "(") + "1" + times(6, ")");
+        String seven = times(6, "(") + "#(1" + times(7, ")");
+        fault(0, "price = if " + six + " < " + six + " then " + six + " else " + six + ";");
+        fault(2, "price = if " + seven + " < 1 then 1 else 1;");
+        fault(2, "price = if 1 < " + seven + " then 1 else 1;");
+        fault(2, "price = if 1 < 1 then " + seven + " else 1;");
+        fault(2, "price = if 1 < 1 then 1 else " + seven + ";");
         fault(1, "price = " + times(4, test) + "1 #if 1 < 2");
         fault(0, times(20, "price=1;"));
     }

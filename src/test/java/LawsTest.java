@@ -7,6 +7,7 @@ public final class LawsTest {
         untold();
         arithmetic();
         conditions();
+        deep();
         dividedByZero();
         held();
         varsOfAHouse();
@@ -86,6 +87,19 @@ public final class LawsTest {
         votes(3, "if 2 < 1 then 1 else if 2 < 2 then 2 else if 2 < 3 then 3 else if 1 < 2 then 4 else 5");
         votes(5, "if 2 < 1 then 1 else if 2 < 2 then 2 else if 3 < 3 then 3 else if 2 < 2 then 4 else 5");
         votes(10, "if fish < hunger then 9 else if all - fish < fish then fish + fear else 8");
+    }
+
+    /** As much as can wait at once: seven levels, a sum and a product in each, behind four ifs. */
+    private static void deep() {
+        String open = "1 + 2 * (".repeat(6);
+        String deep = open + "1 + 2 * 3" + ")".repeat(6);
+        // 7, and six times 1 and twice as much: 3, 7, 15 .. of 7: 15, 31, 63, 127, 255, 511
+        votes(511, deep);
+        String not = "if " + deep + " < " + deep + " then 1 else ";
+        votes(511, not.repeat(2) + deep);
+        String few = "if 1 + 2 * (1 + 2 * 3) < 1 + 2 * (1 + 2 * 3) then 1 else ";
+        votes(511, few.repeat(4) + deep);
+        votes(255, few.repeat(3) + "if " + deep + " < " + deep + " + 1 then " + deep + " - 256 else 1");
     }
 
     private static void dividedByZero() {
