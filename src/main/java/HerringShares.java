@@ -886,7 +886,19 @@ public final class HerringShares {
             motions = 0;
             fault = 0;
             for (int i = 0; i <= Tokens.MOST && fault == 0 && next != Tokens.END; i++) {
-                parseTell();
+                if (next == Tokens.HOUSE) {
+                    parseHouse();
+                } else if (next == Tokens.HEARS) {
+                    parseHearing();
+                } else if (next == Tokens.MOTION) {
+                    parseMotion();
+                } else if (next >= Tokens.PRICE && next <= Tokens.ROTS) {
+                    parseLaw(next - Tokens.PRICE);
+                } else if (next >= Tokens.SALT && next <= Tokens.SEED) {
+                    parseNumber();
+                } else {
+                    fail(SYNTAX);
+                }
             }
         }
 
@@ -894,8 +906,11 @@ public final class HerringShares {
             fault = fault == 0 ? number : fault;
         }
 
-        /** Goes behind the next TOKEN, if there is no FAULT and room for it. */
-        private void pass() {
+        /** Goes behind the next TOKEN, if it is of the kind and there is room for it. */
+        private void take(int kind) {
+            if (next != kind) {
+                fail(SYNTAX);
+            }
             if (at >= Tokens.MOST) {
                 fail(ROOM);
             }
@@ -905,37 +920,23 @@ public final class HerringShares {
             }
         }
 
-        private void take(int kind) {
-            if (next != kind) {
-                fail(SYNTAX);
+        /** One more of a sort: it has no room if there are as many as may be. */
+        private void takeSort(int told, int most) {
+            if (told >= most) {
+                fail(ROOM);
             }
-            pass();
+            take(next);
         }
 
-        private void parseTell() {
-            int word = next;
-            if (word == Tokens.HOUSE) {
-                houses++;
-                parseHouse(houses <= MAX_HOUSES);
-            } else if (word == Tokens.HEARS) {
-                hearings++;
-                parseHearing(hearings <= Town.MOST_HEARINGS);
-            } else if (word == Tokens.MOTION) {
-                motions++;
-                parseMotion(motions <= MAX_MOTIONS);
-            } else if (word >= Tokens.PRICE && word <= Tokens.ROTS) {
-                parseLaw(word - Tokens.PRICE);
-            } else if (word >= Tokens.SALT && word <= Tokens.SEED) {
-                pass();
-                take(Tokens.INT);
-                take(Tokens.SEMICOLON);
-            } else {
-                fail(SYNTAX);
-            }
+        private void parseNumber() {
+            take(next);
+            take(Tokens.INT);
+            take(Tokens.SEMICOLON);
         }
 
-        private void parseHouse(boolean hasRoom) {
-            startSort(hasRoom);
+        private void parseHouse() {
+            takeSort(houses, MAX_HOUSES);
+            houses++;
             take(Tokens.NAME);
             for (int i = 0; i < 4; i++) {
                 take(Tokens.INT);
@@ -943,62 +944,50 @@ public final class HerringShares {
             take(Tokens.SEMICOLON);
         }
 
-        private void parseHearing(boolean hasRoom) {
-            startSort(hasRoom);
+        private void parseHearing() {
+            takeSort(hearings, Town.MOST_HEARINGS);
+            hearings++;
             take(Tokens.NAME);
             take(Tokens.NAME);
             take(Tokens.SEMICOLON);
         }
 
-        private void parseMotion(boolean hasRoom) {
-            startSort(hasRoom);
+        private void parseMotion() {
+            takeSort(motions, MAX_MOTIONS);
+            motions++;
             take(Tokens.NAME);
             for (int i = 0; i <= Tokens.MOST && fault == 0 && next == Tokens.NAME; i++) {
-                pass();
+                take(next);
             }
             take(Tokens.SEMICOLON);
-        }
-
-        private void startSort(boolean hasRoom) {
-            if (!hasRoom) {
-                fail(ROOM);
-            }
-            pass();
         }
 
         private void parseLaw(int law) {
-            pass();
+            take(next);
             take(Tokens.EQUALS);
             laws.startHere(law);
             for (int i = 0; i <= MOST_IFS && fault == 0 && next == Tokens.IF; i++) {
-                if (i == MOST_IFS) {
-                    fail(ROOM);
-                }
-                parseIf();
+                takeSort(i, MOST_IFS);
+                parseSum(0);
+                take(Tokens.LESS);
+                parseSum(0);
+                take(Tokens.THEN);
+                int unless = laws.put(Laws.UNLESS_LESS, 0);
+                parseSum(0);
+                take(Tokens.ELSE);
+                laws.put(Laws.ANSWER, 0);
+                laws.leadHere(unless);
             }
             parseSum(0);
             take(Tokens.SEMICOLON);
             laws.put(Laws.ANSWER, 0);
-        }
-
-        private void parseIf() {
-            pass();
-            parseSum(0);
-            take(Tokens.LESS);
-            parseSum(0);
-            take(Tokens.THEN);
-            int unless = laws.put(Laws.UNLESS_LESS, 0);
-            parseSum(0);
-            take(Tokens.ELSE);
-            laws.put(Laws.ANSWER, 0);
-            laws.leadHere(unless);
         }
 
         private void parseSum(int depth) {
             parseProduct(depth);
             for (int i = 0; i <= Tokens.MOST && fault == 0 && isOne(Tokens.PLUS, Tokens.MINUS); i++) {
                 int join = next == Tokens.PLUS ? Laws.ADD : Laws.SUBTRACT;
-                pass();
+                take(next);
                 parseProduct(depth);
                 laws.put(join, 0);
             }
@@ -1008,7 +997,7 @@ public final class HerringShares {
             parseUnit(depth);
             for (int i = 0; i <= Tokens.MOST && fault == 0 && isOne(Tokens.TIMES, Tokens.OVER); i++) {
                 int join = next == Tokens.TIMES ? Laws.MULTIPLY : Laws.DIVIDE;
-                pass();
+                take(next);
                 parseUnit(depth);
                 laws.put(join, 0);
             }
@@ -1024,16 +1013,16 @@ public final class HerringShares {
             }
             if (next == Tokens.INT) {
                 laws.put(Laws.PUSH, tokens.value(at));
-                pass();
+                take(next);
             } else if (next >= Tokens.FISH && next <= Tokens.WHICH) {
                 laws.put(Laws.LOAD, next - Tokens.FISH);
-                pass();
+                take(next);
             } else if (next != Tokens.OPEN) {
                 fail(SYNTAX);
             } else if (depth >= MOST_OPEN) {
                 fail(ROOM);
             } else {
-                pass();
+                take(next);
                 parseSum(depth + 1);
                 take(Tokens.CLOSE);
             }
@@ -1063,9 +1052,19 @@ public final class HerringShares {
             town = draft;
             at = 0;
             fault = 0;
-            for (int i = 0; i <= Tokens.MOST && fault == 0 && tokens.kind(at) != Tokens.END; i++) {
-                fillTell();
+            int kind = tokens.kind(0);
+            for (int i = 0; i <= Tokens.MOST && fault == 0 && kind != Tokens.END; i++) {
+                if (kind == Tokens.HOUSE) {
+                    fillHouse();
+                } else if (kind == Tokens.HEARS) {
+                    fillHearing();
+                } else if (kind == Tokens.MOTION) {
+                    fillMotion();
+                } else {
+                    fillNumber(kind);
+                }
                 skipTell();
+                kind = tokens.kind(at);
             }
         }
 
@@ -1087,28 +1086,13 @@ public final class HerringShares {
             return tokens.kind(token) == Tokens.SEMICOLON || tokens.kind(token) == Tokens.END;
         }
 
-        private void fillTell() {
-            switch (tokens.kind(at)) {
-                case Tokens.HOUSE:
-                    fillHouse();
-                    break;
-                case Tokens.HEARS:
-                    fillHearing();
-                    break;
-                case Tokens.MOTION:
-                    fillMotion();
-                    break;
-                case Tokens.SALT:
-                    town.salt = number(at + 1, 999);
-                    break;
-                case Tokens.ODDS:
-                    town.odds = number(at + 1, 100);
-                    break;
-                case Tokens.SEED:
-                    town.seed = number(at + 1, 9999);
-                    break;
-                default:
-                    break;
+        private void fillNumber(int kind) {
+            if (kind == Tokens.SALT) {
+                town.salt = number(at + 1, 999);
+            } else if (kind == Tokens.ODDS) {
+                town.odds = number(at + 1, 100);
+            } else if (kind == Tokens.SEED) {
+                town.seed = number(at + 1, 9999);
             }
         }
 
