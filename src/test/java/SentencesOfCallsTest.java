@@ -137,6 +137,15 @@ public final class SentencesOfCallsTest {
         Due.put(x, "salt 7;");
         DUE.is("back(7), all", 0, x.back(7));
         DUE.is("back(0) of nothing", 0, x.back(0));
+        // what went is not read, though it would go on with what is left
+        Due.put(x, "house abcdefghijklmn");
+        DUE.is("back(6)", 14, x.back(6));
+        DUE.is("read", 1, x.read());
+        DUE.is("a NAME of 8 letters, then the end", 14, x.place());
+        Due.put(x, "seed 123456789012345");
+        DUE.is("back(11)", 9, x.back(11));
+        DUE.is("read", 1, x.read());
+        DUE.is("an INT of 4 digits, then the end", 9, x.place());
         Due.put(x, "salt 8;");
         DUE.is("read", 0, x.read());
         DUE.is("SALT", 8, x.count(7));
@@ -531,6 +540,27 @@ public final class SentencesOfCallsTest {
         x.proxy(0, -1);
         DUE.is("undo what was taken back", true, x.undo());
         DUE.is("to whom", 1, x.house(0, 6));
+        undoOfSeven();
+    }
+
+    private static HerringShares seven() {
+        HerringShares x = Due.town(Sentence.houses("50 1 1", 11, 12, 13, 14, 15, 16, 17) + "price=1;");
+        x.salts(6, 3);
+        x.eat(6, 2);
+        x.proxy(6, 5);
+        return x;
+    }
+
+    private static void undoOfSeven() {
+        HerringShares x = seven();
+        String was = Sentence.all(x);
+        x.proxy(6, -1);
+        x.buy(6, 0, 4);
+        x.eat(6, 18);
+        for (int i = 0; i < 3; i++) {
+            DUE.is("undo of the seventh one's", true, x.undo());
+        }
+        DUE.is("as it was", true, Sentence.same(was, x));
     }
 
     private static void undoNone() {
@@ -614,6 +644,14 @@ public final class SentencesOfCallsTest {
         x.days(1);
         x.restore(1);
         DUE.is("FISH", fish, x.house(0, 0));
+        x = seven();
+        x.hold(2);
+        long held = heldPart(Sentence.all(x));
+        x.proxy(6, 4);
+        x.buy(6, 0, 4);
+        x.days(3);
+        x.restore(2);
+        DUE.is("of seven, as it was", held, heldPart(Sentence.all(x)));
     }
 
     /** All but how much can be undone and how many SLOTS hold something. */

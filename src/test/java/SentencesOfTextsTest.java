@@ -17,6 +17,7 @@ public final class SentencesOfTextsTest {
         signs();
         longerOnesAreNoTokens();
         textOfNoTells();
+        eachTextAnew();
         sevenHouses();
         numbersOfHouses();
         sixteenHears();
@@ -92,6 +93,8 @@ public final class SentencesOfTextsTest {
             }
         }
         DUE.is("without any", 5, fine("seed1;salt5;odds2;").count(7));
+        DUE.is("NAMES behind other ones", 2, fine("house\ta 1 1 1 1;house\nb\r1 1 1 1;hears a\tb;hears\rb\na;").count(1));
+        fault(3, "house\ta 1 1 1 1;house\n#a 1 1 1 1;");
         DUE.is("a NAME and an INT", 21, fine("house ann21 3 4 5;").house(0, 0));
         fine("price=if(1)<2then 3else(4);");
     }
@@ -195,6 +198,36 @@ public final class SentencesOfTextsTest {
         DUE.is("one", 3, fine("salt 3;").count(7));
         DUE.is("as many as there are TOKENS for", 4, fine("salt 3;".repeat(132) + "salt 4;").count(7));
         fault(1, "#;");
+    }
+
+    /** The same object reads on: what texts ahead told counts for nothing. */
+    private static void readAgain(HerringShares x, String text, int times) {
+        for (int i = 0; i < times; i++) {
+            Due.put(x, text);
+            DUE.is("read of " + text, 0, x.read());
+        }
+    }
+
+    private static void eachTextAnew() {
+        DUE.about("LAWS, SALT, ODDS, SEED if not told: whatever texts ahead told");
+        HerringShares x = new HerringShares();
+        for (int times = 1; times <= 2; times++) {
+            readAgain(x, "salt 7;odds 100;seed " + Sentence.seedOfLot(99) + ";price=3;", 2);
+            DUE.is("a glut", 1, x.count(13));
+            readAgain(x, "", times);
+            DUE.is("SALT", 20, x.count(7));
+            DUE.is("PRICE", 10, x.tells(0, 0));
+            DUE.is("ODDS 0: no glut", 0, x.count(13));
+            readAgain(x, "odds " + Sentence.lot(100, 0, 0) + ";", times);
+            DUE.is("the LOT of SEED 0 is not less", 0, x.count(13));
+            readAgain(x, "odds " + (Sentence.lot(100, 0, 0) + 1) + ";", times);
+            DUE.is("the LOT of SEED 0 is less", 1, x.count(13));
+        }
+        readAgain(x, someHouses(7) + someHears(16) + "motion ma;motion mb;motion mc;motion md;motion me;", 3);
+        DUE.is("HEARS", 16, x.count(1));
+        readAgain(x, someHouses(7), 2);
+        DUE.is("of whom it hears", 0, x.house(0, 9));
+        DUE.is("MOTIONS", 0, x.count(2));
     }
 
     private static String someHouses(int n) {
@@ -447,6 +480,10 @@ public final class SentencesOfTextsTest {
         fault(2, "price=if 1<1 then " + seven + " else 1;");
         fault(2, "price=if 1<1 then 1 else " + seven + ";");
         fault(2, "price=" + "1+(2*".repeat(6) + "#(");
+        // as much as a LAW can have: four ifs, six ( within one another on each side, a sum and a product in each
+        String deep = "1+2*(".repeat(6) + "1+2*3" + ")".repeat(6);
+        String not = "if " + deep + "<" + deep + " then 1 else ";
+        DUE.is("the last one behind four ifs", 51, fine("price=" + not.repeat(4) + deep + "-460;").tells(0, 0));
         DUE.is("more than six, not within one another", 7, fine("price=" + "(1)+".repeat(6) + "(1);").tells(0, 0));
     }
 

@@ -9,6 +9,8 @@ public final class SentencesOfTimeTest {
 
     public static void main(String[] args) {
         nothingHappens();
+        asItComes();
+        glutsByTheSeed();
         sellWithin0To24();
         sellAsManyAsItHasThen();
         sellTheFirstOfAlike();
@@ -70,6 +72,63 @@ public final class SentencesOfTimeTest {
         x.deals(0);
         x.ruin(0, 60, 20);
         DUE.is("all is as it was", true, Sentence.same(was, x));
+    }
+
+    private static void asItComes() {
+        DUE.about("IN n DAYS: as it comes when DAYS go by");
+        for (String var : new String[] {"fish", "all", "day", "hunger", "coins", "fear", "salted", "ate", "which"}) {
+            HerringShares x = Due.town("house a 90 50 3 1;house b 40 200 5 2;house c 9 7 0 0;price=all+ate+day;eats=" + var
+                    + "/3;rots=" + var + "/4;glut=" + var + ";odds 50;seed 7;");
+            x.days(2);
+            x.buy(1, 0, 1);
+            x.salts(0, 7);
+            x.salts(1, 5);
+            x.hold(0);
+            for (int n : new int[] {0, 1, 2, 5, 60}) {
+                int[] would = {x.priceIn(n), x.allIn(n), x.then(0, n, 0), x.then(1, n, 0), x.then(1, n, 1), x.then(1, n, 2),
+                    x.poorest(n, 1), x.ruin(2, n, 1)};
+                int ate = x.house(1, 5);
+                x.days(n);
+                int fewest = Math.min(x.house(0, 0), Math.min(x.house(1, 0), x.house(2, 0)));
+                int[] is = {x.tells(0, 0), x.count(4), x.house(0, 0), x.house(1, 0), x.house(1, 5) - ate, x.house(1, 4),
+                    fewest, x.house(2, 0) == 0 ? 1 : 0};
+                for (int i = 0; i < is.length; i++) {
+                    DUE.is(var + ", in " + n + " DAYS, " + i, is[i], would[i]);
+                }
+                x.restore(0);
+            }
+        }
+    }
+
+    private static void glutsByTheSeed() {
+        DUE.about("What would be: gluts by the text's SEED");
+        for (int seed : new int[] {0, 7, 4321, 9999}) {
+            HerringShares x = Due.town("house a 20 0 0 0;price=all;glut=4;odds 50;eats=3;seed " + seed + ";");
+            int fish = 20;
+            int best = 400;
+            int dear = 20;
+            for (int n = 1; n <= 24; n++) {
+                fish = Math.max(0, fish - 3) + (Sentence.lot(100, seed, 4 * (n - 1)) < 50 ? 4 : 0);
+                int price = Math.max(1, fish);
+                best = Math.max(best, fish * price);
+                dear = Math.max(dear, price);
+                DUE.is("SEED " + seed + ", priceIn(" + n + ")", price, x.priceIn(n));
+                DUE.is("SEED " + seed + ", allIn(" + n + ")", fish, x.allIn(n));
+                DUE.is("SEED " + seed + ", then(0, " + n + ", 0)", fish, x.then(0, n, 0));
+                DUE.is("SEED " + seed + ", poorest(" + n + ", 1)", fish, x.poorest(n, 1));
+                DUE.is("SEED " + seed + ", sell(0, " + n + ", 1)", best, x.sell(0, n, 1));
+                DUE.is("SEED " + seed + ", dearest(" + n + ", 1)", dear, x.dearest(n, 1));
+            }
+        }
+        for (int seed = 0; seed < 40; seed++) {
+            // FISH of a glut on day 0 keep the 5 from rotting on day 1
+            HerringShares x = Due.town("house a 5 0 0 0;glut=4;odds 50;rots=if day<1 then 0 else 9-all;seed " + seed + ";");
+            boolean glut = Sentence.lot(100, seed, 0) < 50;
+            DUE.is("SEED " + seed + ", salting(0, 2)", glut ? 0 : 5, x.salting(0, 2));
+            x = Due.town("house a 5 0 0 0;price=if all<6 then 50-day else 60+day;glut=4;odds 50;seed " + seed + ";");
+            DUE.is("SEED " + seed + ", dearest(1, 0)", glut ? 1 : 0, x.dearest(1, 0));
+            DUE.is("SEED " + seed + ", sell(0, 1, 0)", glut ? 1 : 0, x.sell(0, 1, 0));
+        }
     }
 
     private static void sellWithin0To24() {
@@ -306,6 +365,7 @@ public final class SentencesOfTimeTest {
         most.days(60);
         DUE.is("as many as can be", 9999, most.share(6));
         DUE.is("no FISH", 0, Due.town("house a 0 0 9 0;").share(0));
+        DUE.is("the HUNGER of all is 1", 11, Due.town("house a 5 0 1 0;house b 6 0 0 0;").share(0));
     }
 
     private static void shareNobodyIsHungry() {

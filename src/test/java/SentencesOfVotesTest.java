@@ -260,6 +260,8 @@ public final class SentencesOfVotesTest {
         DUE.about("TAKEOVER: it has more than half already");
         DUE.is("how much", 0, Due.town(Sentence.houses("0 1 1", 6, 3, 2)).takeover(0, 0));
         DUE.is("from how many", 0, Due.town(Sentence.houses("0 1 1", 6, 3, 2)).takeover(0, 1));
+        DUE.is("far more than half", 0, Due.town(Sentence.houses("0 1 1", 99, 0, 2)).takeover(0, 0));
+        DUE.is("far more than half", 0, Due.town(Sentence.houses("0 1 1", 99, 0, 2)).takeover(0, 1));
         DUE.is("one HOUSE, one FISH", 0, Due.town(Sentence.houses("0 1 1", 1)).takeover(0, 0));
     }
 
