@@ -32,6 +32,26 @@ final class Sentence {
         return seen.append("/ ").append(x.began(x.count(10), 1)).toString();
     }
 
+    /** What would be, asked of each house; some sixty calls in a town of two. */
+    static String wouldBe(HerringShares x) {
+        StringBuilder seen = new StringBuilder();
+        for (int what = 0; what < 2; what++) {
+            seen.append(x.spark(what)).append(' ').append(x.strongest(what)).append(' ').append(x.deals(what)).append(' ');
+            seen.append(x.dearest(9, what)).append(' ').append(x.poorest(9, what)).append(' ');
+        }
+        seen.append(x.priceIn(9)).append(' ').append(x.allIn(9)).append(' ').append(x.ask(0)).append(' ');
+        int houses = x.count(0);
+        for (int house = 0; house < houses; house++) {
+            seen.append("/ ").append(x.panic(house)).append(' ').append(x.calm(house, (house + 1) % houses, -1)).append(' ');
+            seen.append(x.power(house, true)).append(' ').append(x.power(house, false)).append(' ').append(x.allies(house));
+            seen.append(' ').append(x.takeover(house, 0)).append(' ').append(x.takeover(house, 1)).append(' ');
+            seen.append(x.sell(house, 9, 0)).append(' ').append(x.sell(house, 9, 1)).append(' ').append(x.salting(house, 9));
+            seen.append(' ').append(x.quiet(house)).append(' ').append(x.share(house)).append(' ');
+            seen.append(x.then(house, 9, 0)).append(' ').append(x.ruin(house, 9, 5)).append(' ');
+        }
+        return seen.toString();
+    }
+
     /** Whether all is as it was; says what differs. */
     static boolean same(String was, HerringShares x) {
         String is = all(x);

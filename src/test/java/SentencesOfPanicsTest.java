@@ -118,6 +118,8 @@ public final class SentencesOfPanicsTest {
         DUE.is("how many", 7, x.spark(1));
         x = Sentence.fears("9999", "cb", "db");
         DUE.is("none but itself", 1, x.spark(1));
+        DUE.is("all eat, whoever begins", 0, Sentence.fears("000").spark(0));
+        DUE.is("all eat, whoever begins", 3, Sentence.fears("000").spark(1));
         DUE.is("one HOUSE", 0, Sentence.fears("5").spark(0));
         DUE.is("one HOUSE", 1, Sentence.fears("5").spark(1));
     }

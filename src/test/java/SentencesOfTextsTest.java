@@ -228,6 +228,26 @@ public final class SentencesOfTextsTest {
         readAgain(x, someHouses(7), 2);
         DUE.is("of whom it hears", 0, x.house(0, 9));
         DUE.is("MOTIONS", 0, x.count(2));
+        fewerHousesThanAhead();
+    }
+
+    private static void fewerHousesThanAhead() {
+        HerringShares x = new HerringShares();
+        String many = Sentence.houses("999 9 1", 99, 99, 99, 99, 99, 99, 99) + "hears c a;hears a c;hears b g;eats=1;";
+        readAgain(x, many, 2);
+        x.days(3);
+        x.salts(2, 5);
+        x.proxy(2, 0);
+        x.hold(0);
+        String[] texts = {Sentence.houses("40 2 1", 1, 3, 3, 3) + "price=1;",
+            Sentence.houses("40 2 1", 3, 4) + "hears b a;rots=1;", Sentence.houses("40 2 1", 0, 0),
+            Sentence.houses("40 2 0", 0), ""};
+        for (String text : texts) {
+            readAgain(x, text, 1);
+            HerringShares fresh = fine(text);
+            DUE.is("all is as in a new object", true, Sentence.same(Sentence.all(fresh), x));
+            DUE.is("what would be, too", true, Sentence.wouldBe(fresh).equals(Sentence.wouldBe(x)));
+        }
     }
 
     private static String someHouses(int n) {
