@@ -31,6 +31,10 @@ public final class FaceTest {
             }
         }
         check(found.equals(new TreeSet<>(Arrays.asList(METHODS))), "the methods are " + found);
+        for (Method method : HerringShares.class.getDeclaredMethods()) {
+            check(!Modifier.isPrivate(method.getModifiers()) || !names.contains(method.getName()),
+                    method + " is private and bears the name of a public one");
+        }
         for (Field field : HerringShares.class.getDeclaredFields()) {
             boolean none = field.getName().equals("NONE") && field.getType() == int.class
                     && field.getModifiers() == (Modifier.PUBLIC | Modifier.STATIC | Modifier.FINAL);

@@ -87,6 +87,11 @@ public final class SentencesOfLawsTest {
         votes(103, "100+(0-7)/(0-2)");
         votes(100, "100+(0-1)/2");
         votes(100, "100+1/2");
+        votes(7, "7/1");
+        votes(93, "100+7/(0-1)");
+        votes(1, "7/7");
+        votes(100, "100+7/8");
+        votes(0, "0/7");
     }
 
     private static void dividedBy0() {
@@ -409,6 +414,15 @@ public final class SentencesOfLawsTest {
         DUE.is("all is as it was", true, Sentence.same(was, x));
         DUE.is("a takes it back", true, x.proxy(0, -1));
         DUE.is("now b may", true, x.proxy(1, 2));
+        for (int givers = 1; givers < 7; givers++) {
+            HerringShares many = Due.town(Sentence.houses("1 1 1", 1, 1, 1, 1, 1, 1, 1));
+            for (int giver = 1; giver <= givers; giver++) {
+                DUE.is(giver + " to a", true, many.proxy(giver, 0));
+            }
+            for (int to = 1; to < 7; to++) {
+                DUE.is("a has " + givers + ", to " + to, false, many.proxy(0, to));
+            }
+        }
     }
 
     private static void whoGaveMayNotHaveOne() {
