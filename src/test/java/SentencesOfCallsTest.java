@@ -321,6 +321,17 @@ public final class SentencesOfCallsTest {
         x.eat(0, 1);
         refused(Sentence.all(x), "10,000 FISH", -2, x.buy(0, 1, 2), x);
         DUE.is("9,999 FISH", 1, x.buy(0, 1, 1));
+        for (int buyer = 0; buyer < 3; buyer++) {
+            x = Due.town("house a 99 999 0 0;house b 99 999 0 0;house c 99 999 0 0;odds 100;price=1;glut=if which<"
+                    + buyer + " then 0 else if " + buyer + "<which then 0 else 99;");
+            x.days(60);
+            x.days(60);
+            DUE.is("FISH of " + buyer, 9999, x.house(buyer, 0));
+            int other = (buyer + 1) % 3;
+            refused(Sentence.all(x), buyer + " buys", -2, x.buy(buyer, other, 1), x);
+            DUE.is(other + " buys", 99, x.buy(other, buyer, 99));
+            DUE.is("9,999 FISH", 99, x.buy(buyer, (buyer + 2) % 3, 99));
+        }
     }
 
     private static void buyMoreThan9999Coins() {

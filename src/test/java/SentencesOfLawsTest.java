@@ -160,6 +160,14 @@ public final class SentencesOfLawsTest {
             }
             DUE.is(law + " = day + 1", held ? 1 : 4, law.equals("votes") ? x.house(1, 7) : x.tells(1, what));
         }
+        HerringShares x = Due.town("house a 40 9 1 2;house b 17 8 6 5;house c 3 1 1 1;motion m b;votes=all*which;");
+        DUE.is("VOTES that a has", 0, x.house(0, 8));
+        DUE.is("VOTES that b has", 60, x.house(1, 8));
+        DUE.is("VOTES that c has", 120, x.house(2, 8));
+        DUE.is("VOTES of all", 180, x.count(12));
+        DUE.is("VOTES for it", 60, x.motion(0, 1));
+        DUE.is("b lacks half", 1, x.allies(1));
+        DUE.is("c does not", 0, x.allies(2));
     }
 
     private static void varsOfAHouse() {

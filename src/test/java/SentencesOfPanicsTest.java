@@ -348,6 +348,15 @@ public final class SentencesOfPanicsTest {
             DUE.is("began(" + k + ", 0)", Integer.bitCount(which[k]), x.began(k, 0));
             DUE.is("ask(" + k + ")", ask[k], x.ask(k));
         }
+        for (int odd = 0; odd < 20; odd++) {
+            HerringShares full = Sentence.fears("11", "ba");
+            for (int i = 0; i < 20; i++) {
+                full.tell(i == odd ? 0 : 1, i != odd);
+            }
+            for (int k = 0; k <= 20; k++) {
+                DUE.is("number " + odd + " tells, began(" + k + ", 1)", k > odd ? 2 : 3, full.began(k, 1));
+            }
+        }
     }
 
     private static void beganAllThatIsKnown() {

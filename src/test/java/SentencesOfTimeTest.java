@@ -301,6 +301,10 @@ public final class SentencesOfTimeTest {
         DUE.is("99 from day 9 on", 99, Due.town("price=11*day;").dearest(24, 1));
         DUE.is("lower each day", 0, Due.town("price=50-day;").dearest(24, 0));
         DUE.is("1 at least", 1, Due.town("price=0;").dearest(24, 1));
+        HerringShares x = Due.town("house a 1 0 0 0;price=1;glut=9;odds 100;");
+        DUE.is("more to sell each day", 5, x.sell(0, 5, 0));
+        DUE.is("1 each day, whatever was asked ahead", 0, x.dearest(5, 0));
+        DUE.is("1 each day, whatever was asked ahead", 1, x.dearest(5, 1));
     }
 
     private static void dearestNoSuchOnes() {
