@@ -13,6 +13,7 @@ public final class RandomRunsTest {
     private final HerringShares x = new HerringShares();
     private final Model model = new Model();
     private final List<String> log = new ArrayList<>();
+    private int used;
     private int wrong;
 
     private RandomRunsTest(long seed) {
@@ -34,17 +35,16 @@ public final class RandomRunsTest {
 
     private int run(int number) {
         boolean faulty = number % 5 == 4;
-        int calls = 0;
-        while (calls < 400 && wrong == 0) {
+        // an object is good for 512 calls, and a text takes up to 104 of them
+        while (used < 400 && wrong == 0) {
             String text = new RandomTexts(random).text(faulty || random.nextInt(6) == 0);
-            calls += put(text);
+            put(text);
             check("read of [" + text + "]", model.read(), x.read());
             check("place", model.place(), x.place());
             int more = faulty ? 3 : 40 + random.nextInt(150);
-            for (int i = 0; i < more && wrong == 0; i++) {
+            for (int i = 0; i < more && used < 510 && wrong == 0; i++) {
                 call(CALLS[random.nextInt(faulty ? CALLS.length : CALLS.length - 2)]);
             }
-            calls += 2 + more;
         }
         if (wrong != 0) {
             System.out.println("run " + number + ": " + String.join("\n    ", log));
@@ -53,6 +53,7 @@ public final class RandomRunsTest {
     }
 
     private void check(String call, long want, long got) {
+        used++;
         log.add(call + " -> " + got);
         if (want != got) {
             wrong++;
@@ -60,10 +61,10 @@ public final class RandomRunsTest {
         }
     }
 
-    private int put(String text) {
+    private void put(String text) {
         int at = 0;
-        int calls = 1;
-        check("back all", model.back(model.count(8)), x.back(x.count(8)));
+        int fed = model.count(8);
+        check("back all", model.back(fed), x.back(fed));
         while (at < text.length()) {
             int[] w = new int[5];
             for (int i = 0; i < 20; i++) {
@@ -72,10 +73,8 @@ public final class RandomRunsTest {
             }
             check("feed", model.feed(w[0], w[1], w[2], w[3], w[4]), x.feed(w[0], w[1], w[2], w[3], w[4]));
             at += 20;
-            calls++;
         }
         check("back", model.back(at - text.length()), x.back(at - text.length()));
-        return calls + 1;
     }
 
     private int pick(int most) {

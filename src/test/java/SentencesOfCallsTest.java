@@ -531,18 +531,15 @@ public final class SentencesOfCallsTest {
 
     private static void undoEach() {
         DUE.about("13: The last thing done (buy, eat, salts, proxy, days) is undone");
+        // two of them, as looking at all takes some fifty of an object's 512 calls
+        HerringShares looked = two();
         HerringShares x = two();
         String[] was = new String[5];
-        was[0] = Sentence.all(x);
-        x.buy(0, 1, 4);
-        was[1] = Sentence.all(x);
-        x.salts(0, 6);
-        was[2] = Sentence.all(x);
-        x.proxy(1, 0);
-        was[3] = Sentence.all(x);
-        x.eat(0, 20);
-        was[4] = Sentence.all(x);
-        x.days(2);
+        for (int i = 0; i < 5; i++) {
+            was[i] = Sentence.all(looked);
+            doOne(looked, i);
+            doOne(x, i);
+        }
         for (int i = 4; i >= 0; i--) {
             DUE.is("undo", true, x.undo());
             DUE.is("as it was", true, Sentence.same(was[i], x));
@@ -552,6 +549,16 @@ public final class SentencesOfCallsTest {
         DUE.is("undo what was taken back", true, x.undo());
         DUE.is("to whom", 1, x.house(0, 6));
         undoOfSeven();
+    }
+
+    private static void doOne(HerringShares x, int which) {
+        switch (which) {
+            case 0 -> x.buy(0, 1, 4);
+            case 1 -> x.salts(0, 6);
+            case 2 -> x.proxy(1, 0);
+            case 3 -> x.eat(0, 20);
+            default -> x.days(2);
+        }
     }
 
     private static HerringShares seven() {
